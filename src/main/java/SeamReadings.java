@@ -301,7 +301,7 @@ public final class SeamReadings {
             return TOO_MANY;
         }
         for (int i = many - 1; i >= 0; i--) {
-            pad.append(codeAt(characters, i));
+            pad.append(codeIn(characters, i));
         }
         return pad.length;
     }
@@ -353,7 +353,7 @@ public final class SeamReadings {
 
     // ---- characters
 
-    private static int codeAt(long characters, int fromLast) {
+    private static int codeIn(long characters, int fromLast) {
         return (int) ((characters >>> (8 * fromLast)) & 255);
     }
 
@@ -361,7 +361,7 @@ public final class SeamReadings {
     private static int charactersIn(long characters) {
         int many = 0;
         for (int i = 0; i < MOST_CHARACTERS; i++) {
-            int code = codeAt(characters, i);
+            int code = codeIn(characters, i);
             if (code == 0) {
                 continue;
             }

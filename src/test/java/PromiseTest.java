@@ -241,6 +241,7 @@ final class PromiseTest {
         scrollIs("a|b|c", 3, 3, 2, 1, 3, 0, 0);
         scrollIs("aa|a|b", 3, 4, 2, 1, 3, 0, 1);
         scrollIs(FULL, 5, 60, 64, 32, 0, 0, 0);
+        scrollIs("abababababab|abababababab|abababababab|abababababab|abababababab", 5, 60, 32, 32, 0, 0, 0);
         // the patch would have more than 12 letters, and still its seam can be undone
         scrollIs("aaaaaaaaaaaa|aaaaaaaaaaaa", 2, 24, 1, 1, 2, 1, 1);
         // as many readings without the seam as with it are not yet the same ones
@@ -297,6 +298,9 @@ final class PromiseTest {
         readings("ca|b", "acb", "bac", "bca", "cab");
         readings("ab|c|ba", "abcab", "abcba", "bacab", "bacba");
         readings("a|bc|d", "abcd", "acbd", "dbca", "dcba");
+        readings("ab|dc|ef", "abcdef", "abcdfe", "abdcef", "abdcfe", "bacdef", "bacdfe", "badcef", "badcfe",
+            "efcdab", "efcdba", "efdcab", "efdcba", "fecdab", "fecdba", "fedcab", "fedcba");
+        readings("ab|c|ab|a", "aabcab", "aabcba", "abacab", "abacba", "abcaba", "abcbaa", "bacaba", "bacbaa");
         SeamReadings x = Due.shelf("ab|c;d");
         due.is("12: no such scroll", x.reading(2, 0, 0), NO_SUCH);
         due.is("12: below the first scroll", x.reading(-1, 0, 0), NO_SUCH);
@@ -341,6 +345,9 @@ final class PromiseTest {
         SeamReadings y = Due.shelf("abcdefghijkl|mn");
         found(y, "abcdefghijkl", 4, 0, 0, 0);
         found(y, "bcdefghijklm", 1, 0, 1, 0);
+        SeamReadings full = Due.shelf(FULL);
+        found(full, "zyxwvutsrqpo", 32, 1, 48, 0);
+        found(full, "azyxwvutsrqp", 0, NONE, NONE, 0);
         due.is("13: no such scroll", y.find(1, 0), NO_SUCH);
         due.is("13: no such scroll, a bad what", y.find(-1, 4), NO_SUCH);
         due.is("13: behind the last what", y.find(0, 4), BAD_VALUE);
@@ -357,6 +364,11 @@ final class PromiseTest {
     }
 
     private static void promise14Shared() {
+        SeamReadings y = Due.shelf("ab|cde|f|ga;ab|cd|e|f|ga;ag|f|cde|ba;abcdefga;ab|edc|f|ag");
+        due.is("14: with one cut more", y.shared(0, 1), 8);
+        due.is("14: told from the other end", y.shared(0, 2), 16);
+        due.is("14: of one patch alone", y.shared(3, 0), 2);
+        due.is("14: turned patches", y.shared(0, 4), 16);
         SeamReadings x = Due.shelf("ab|c;abc;c|ab;abcd;aa");
         due.is("14: some", x.shared(0, 1), 2);
         due.is("14: the other way", x.shared(1, 0), 2);
@@ -370,6 +382,12 @@ final class PromiseTest {
         due.is("14: below the other one", x.shared(0, -1), NO_SUCH);
         due.is("14: the least number", x.shared(LEAST, LEAST), NO_SUCH);
         due.is("14: nothing changes", x.count(6), 1);
+        SeamReadings full = Due.shelf(FULL);
+        Due.putAll(full, FULL);
+        full.sew();
+        due.is("14: of sixty letters", full.shared(0, 1), 64);
+        full.exchange(1, 1);
+        due.is("14: of sixty letters, and patches exchanged", full.shared(0, 1), 0);
     }
 
     private static void promise15Compare() {
@@ -546,6 +564,7 @@ final class PromiseTest {
         faultOf("a|b|c|d|e|", 9);
         faultOf("a;b|c|d|e|f", NONE);
         faultOf("a|b|c|d|e;f|g|h|i|j", NONE);
+        faultOf("a;b|c|d|e|f|g", 11);
         faultOf("a;b;c;d;e", NONE);
         faultOf("a;b;c;d;e;f", 9);
         faultOf("a;b;c;d;e;", 9);
@@ -576,10 +595,11 @@ final class PromiseTest {
         y.turn(0, 0);
         y.burn(0);
         due.is("22: the oldest ones are dropped", y.count(6), 6);
+        String[] before = {"a|bcdefghi", "a|b|cdefghi", "a|b|c|defghi", "a|b|c|d|efghi", "a|b|c|d|ihgfe", "a|b|c|d|ihgfe"};
         for (int left = 5; left >= 0; left--) {
             due.is("22: back", y.undo(), left);
+            due.text("22: back with " + left + " left", Due.scroll(y, 0), before[left]);
         }
-        due.text("22: back to the oldest state that is kept", Due.scroll(y, 0), "a|bcdefghi");
         due.is("22: no further", y.undo(), NOT_POSSIBLE);
         undoOfEachChange();
         SeamReadings z = Due.shelf("ab");
