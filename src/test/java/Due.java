@@ -18,6 +18,10 @@ final class Due {
         }
     }
 
+    int looked() {
+        return looked;
+    }
+
     boolean isRight() {
         return wrong == 0;
     }
@@ -57,7 +61,7 @@ final class Due {
     /** A scroll as the text that it would be sewn from. */
     static String scroll(SeamReadings x, int scroll) {
         StringBuilder text = new StringBuilder();
-        for (int patch = 0; x.patch(scroll, patch) >= 0; patch++) {
+        for (int patch = 0; patch < 6 && x.patch(scroll, patch) >= 0; patch++) {
             if (patch > 0) {
                 text.append('|');
             }
@@ -70,7 +74,7 @@ final class Due {
 
     static String reading(SeamReadings x, int scroll, int reading) {
         StringBuilder text = new StringBuilder();
-        for (int place = 0; x.reading(scroll, reading, place) >= 0; place++) {
+        for (int place = 0; place < 61 && x.reading(scroll, reading, place) >= 0; place++) {
             text.append((char) ('a' + x.reading(scroll, reading, place)));
         }
         return text.toString();
