@@ -9,6 +9,9 @@ final class LanguageTest {
     private static final Due due = new Due("LanguageTest");
     private static final String FACE = "sew|burn|cut|undoSeam|turn|exchange|join|scroll|patch|letter|reading|find|shared|compare"
         + "|count|ifCut|bestCut|put|wipe|fault|undo|save|restore";
+    // In the class itself a method's head stands four places from the left, in a class inside it eight.
+    private static final Pattern METHOD =
+        Pattern.compile("( {4}| {8})(?!if\\b|for\\b|switch\\b|while\\b)[a-zA-Z][^;=]*\\) \\{");
 
     public static void main(String[] arguments) throws IOException {
         String source = Files.readString(Path.of("src/main/java/SeamReadings.java"));
@@ -34,18 +37,28 @@ final class LanguageTest {
 
     /** Methods stay short, take few parameters, and the classes are few. */
     private static void lengths(String code) {
-        int started = 0;
-        int classes = 0;
         String[] lines = code.split("\n");
+        int methods = 0;
+        int classes = 0;
         for (int i = 0; i < lines.length; i++) {
-            if (lines[i].matches(" {4,8}[a-zA-Z].*\\) \\{")) {
-                started = i;
+            Matcher head = METHOD.matcher(lines[i]);
+            if (head.matches()) {
+                methods++;
                 due.is("rule 11: parameters of " + lines[i], lines[i].split(",").length <= 7 ? 1 : 0, 1);
-            } else if (lines[i].matches(" {4,8}\\}")) {
-                due.is("rule 11: lines of " + lines[started], i - started < 60 || lines[i].startsWith("    }") ? 1 : 0, 1);
+                due.is("rule 11: lines of " + lines[i], endOf(lines, i, head.group(1) + "}") - i < 60 ? 1 : 0, 1);
             }
             classes += lines[i].matches(".*\\bclass\\b.*") ? 1 : 0;
         }
+        due.is("rule 11: methods are found", methods > 23 ? 1 : 0, 1);
         due.is("rule 11: classes", classes <= 12 ? 1 : 0, 1);
+    }
+
+    /** A method ends at the next brace that stands as far to the left as its head. */
+    private static int endOf(String[] lines, int from, String brace) {
+        int at = from;
+        while (at < lines.length && !lines[at].equals(brace)) {
+            at++;
+        }
+        return at;
     }
 }
